@@ -75,7 +75,7 @@ public final class ArticlesTest {
             faultless(x, text);
         }
         String[] bad = {
-            "|", "   |", "|;", "|5", "|Owe 1 1", "|ow", "|oweall 5", "|owes 1 1", "|all", "|but", "|from 5", "|to 5",
+            "|", "   |", "|;", "|5", "|Owe 1 1", "|ow", "|oweall 5", "|owez 1 1", "|aowe 1 1", "|ewe 1 1", "|tarry 5", "owe |ill 1", "|owes 1 1", "|all", "|but", "|from 5", "|to 5",
             "owe|", "owe |", "owe 1|", "owe 1 |", "owe |3 1", "owe |; 1", "owe |owe 1", "owe |al 1", "owe |alls 1",
             "owe 1 |100", "owe 1 |all", "owe 1 |00001", "owe |00001 1", "owe 1 |-1", "owe 1 1 |1", "owe 1 1 |to 5",
             "owe 1 1 |but 1", "owe 1 1 |owe", "owe 1 1|.", "owe 1 1|\n", "owe|\t1 1", "owe 1 1|O", "owe|X 1 1",
@@ -192,12 +192,23 @@ public final class ArticlesTest {
         due("18: from 5", x.unlike(0, 5), 5);
         due("18: from 6", x.unlike(0, 6), 6);
         due("18: alike in 7 and 8", x.unlike(0, 7), 9);
+        due("18: 8 is the last one alike", x.unlike(0, 8), 9);
         due("18: later", x.unlike(0, 100), 100);
         due("18: at the end", x.unlike(0, 3000), 3000);
         due("18: the last hour", x.unlike(1, 0), 3000);
         due("18: never", x.unlike(2, 0), NONE);
         Due.articles(x, 0, "owe all 1 to 2");
         due("18: with a fault nothing changed", x.unlike(2, 0), NONE);
+    }
+
+    private static void promise18First() {
+        FleetDelegates x = fleet(100);
+        Due.articles(x, 0, "owe 0 1 from 40 to 50;owe 0 2");
+        Due.articles(x, 1, "owe 0 2;owe 0 1 from 40 to 60");
+        due("18: behind the first article of a book", x.unlike(0, 0), 51);
+        Due.articles(x, 1, "owe 0 1 from 30;owe 0 2");
+        due("18: from the first article of a book", x.unlike(0, 0), 30);
+        due("18: alike for a while", x.unlike(0, 40), 51);
     }
 
     private static void promise18Many() {
@@ -292,6 +303,7 @@ public final class ArticlesTest {
         promise16();
         promise17();
         promise18();
+        promise18First();
         promise18Many();
         promise19();
         promise20();

@@ -446,7 +446,8 @@ public final class HoursTest {
         due("11: and is below 91 then", x.would(0, 53, 1), 1);
         due("11: in the second hour", x.would(0, 53, 2), 3);
         x.signal(1, 2);
-        due("11: what is to be shown is seen", x.would(0, 46, 1), 0);
+        due("11: what is to be shown is seen", x.would(0, 47, 1), 0);
+        due("11: not enough of it", x.would(0, 48, 1), 1);
         due("11: nothing is changed", x.signal(1, 0), 2);
         x.paper(0, 100);
         x.boat(0, 1, 100, 100, 0);
@@ -462,6 +463,30 @@ public final class HoursTest {
         x.hours(8);
         due("11: so it comes", x.count(1), 3);
         due("11: those that yielded would have", x.would(2, -1, 1), 7);
+    }
+
+    /** What would come is of all that there is: men, stores, papers on the way. */
+    private static void promise11Stores() {
+        FleetDelegates x = new FleetDelegates();
+        x.ship(0, 900, 9, 9, 0, 40);
+        x.ship(1, 100, 900, 900, 90, 100);
+        x.paper(1, 95);
+        x.paper(1, 0);
+        due("11: an offer of 0 is read", x.would(0, 0, 1), 1);
+        due("11: it is not, with none", x.would(0, -1, 1), 0);
+        due("11: hungry in the second hour", x.would(0, -1, 2), 0);
+        due("11: and in the third", x.would(0, -1, 3), 1);
+        x.set(2, 20);
+        due("11: three hungry ones more", x.would(0, -1, 4), 1);
+        x.boat(1, 0, 18, 0, -1);
+        due("11: with beef", x.would(0, -1, 4), 0);
+        due("11: until it is eaten", x.would(0, -1, 5), 1);
+        x.boat(1, 0, 0, 18, -1);
+        due("11: with water, too", x.would(0, -1, 5), 0);
+        x.boat(1, 0, 0, 0, 1);
+        due("11: with a paper on the way", x.would(0, -1, 2), 1);
+        due("11: before it comes", x.would(0, -1, 1), 0);
+        due("11: all of it is still there", x.at(0, 1) * 100 + x.at(1, 1), 900 + 882);
     }
 
     private static void promise11Bounds() {
@@ -499,6 +524,7 @@ public final class HoursTest {
         promise9();
         promise10();
         promise11();
+        promise11Stores();
         promise11Bounds();
         DUE.end();
     }

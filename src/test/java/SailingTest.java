@@ -111,6 +111,21 @@ public final class SailingTest {
         due("26: nor to lesser x", none.slip(1, 6), NONE);
     }
 
+    /** A way up the side, around guns on its row. */
+    private static void promise26Up() {
+        FleetDelegates x = fleet(40, 0);
+        x.battery(48, 0, 50);
+        x.battery(41, 0, 50);
+        x.battery(49, 0, 50);
+        x.battery(50, 0, 50);
+        x.hours(6);
+        due("26: up, around and down", x.slip(0, 24), 0);
+        due("26: six steps are not enough for it", x.slip(0, 6), 50);
+        x.set(1, 1);
+        due("26: not up against the wind", x.slip(0, 24), 50);
+        due("26: down the side", x.slip(1, 14), 50);
+    }
+
     private static void promise26Late() {
         FleetDelegates x = fleet(44);
         for (int i = 0; i < 50; i++) {
@@ -232,6 +247,19 @@ public final class SailingTest {
         due("31: it can be by a new one", z.asked(0), 0);
     }
 
+    private static void promise31First() {
+        FleetDelegates x = fleet(0);
+        x.officer(0, 15);
+        x.list(1, true);
+        due("31: the first one", x.asked(0), 1);
+        x.officer(0, 15);
+        x.list(2, true);
+        due("31: the first one of two alike", x.asked(0), 1);
+        x.needs(0, 1);
+        x.officer(0, 1);
+        due("31: on board", x.asked(0), 0);
+    }
+
     private static void promise32() {
         FleetDelegates x = new FleetDelegates();
         due("32: ask -1", x.ask(-1, 0, 0), UNKNOWN);
@@ -300,6 +328,10 @@ public final class SailingTest {
         due("34: the two greatest", x.begin(2, 14), 3);
         due("34: with one of nothing", x.begin(4, 17), 0);
         due("34: not with it", x.begin(3, 17), 1);
+        FleetDelegates first = asks(9, 9, 2, 2, 7, 7);
+        due("34: the first one once", first.begin(2, 17), NONE);
+        due("34: with the next", first.begin(2, 16), 0);
+        due("34: of 1", first.begin(1, 1), 0);
         FleetDelegates worse = asks(-2, 20, 4, 4, 5, 5);
         due("34: one that costs", worse.begin(3, 7), 0);
         due("34: too much", worse.begin(3, 8), 1);
@@ -335,12 +367,14 @@ public final class SailingTest {
         promise26();
         promise26Wind();
         promise26Costs();
+        promise26Up();
         promise26Late();
         promise27();
         promise28();
         promise29();
         promise30();
         promise31();
+        promise31First();
         promise32();
         promise33();
         promise34();

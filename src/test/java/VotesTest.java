@@ -95,6 +95,9 @@ public final class VotesTest {
         due("23: no voices", high.least(0), NONE);
         Due.articles(high, 0, "carry 0");
         due("23: none needed", high.least(0), 0);
+        FleetDelegates low = fleet(1, 100, 0, 100);
+        due("23: 1", low.least(0), 1);
+        due("23: 0", fleet(0, 100).least(0), 0);
         due("23: no ships", fleet().least(0), NONE);
         due("23: of no ships", fleet().least(1), OUTSIDE);
     }
@@ -113,6 +116,10 @@ public final class VotesTest {
         due("24: two, cut", x.sharing(3), 8);
         due("24: two others", x.sharing(6), 5);
         due("24: all", x.sharing(7), 4);
+        FleetDelegates beef = new FleetDelegates();
+        beef.ship(0, 100, 1, 9, 0, 100);
+        beef.ship(0, 100, 2, 9, 0, 100);
+        due("24: one of beef too few", beef.sharing(3), 1);
         x.hours(1);
         due("24: those that yielded, too", x.sharing(3), 7);
         x.boat(0, 1, 7, 28, -1);
