@@ -309,6 +309,9 @@ public final class SailingTest {
         FleetDelegates all = asks(20, 20, 20, 20, 20, 20, 20, 20, 20, 20);
         due("33: 100", all.reaches(5, 100), 1);
         due("33: each once", all.reaches(4, 81), 0);
+        FleetDelegates ones = asks(1, 1, 0, 0, 1, 1);
+        due("33: one and one", ones.reaches(2, 2), 1);
+        due("33: no more", ones.reaches(5, 3), 0);
         FleetDelegates none = asks(-1, 9, -1, 9, -1, 9, -1, 9, -1, 9);
         due("33: behind no ask", none.reaches(5, 1), 0);
         due("33: at once, before any ask", none.reaches(5, 0), 1);
