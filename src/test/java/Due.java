@@ -1,8 +1,16 @@
+import java.io.IOException;
+import java.io.UncheckedIOException;
+import java.nio.charset.StandardCharsets;
+import java.nio.file.Files;
+import java.nio.file.Path;
+
 /** Counts the answers of one test and tells those that are not as due. */
 final class Due {
     static final int NONE = -1, UNKNOWN = -2, OUTSIDE = -3, NOT = -4, FULL = -5;
 
     private final String test;
+    private String sentence = "";
+    private String document = "";
     private int asked = 0;
     private int wrong = 0;
 
@@ -10,12 +18,39 @@ final class Due {
         this.test = test;
     }
 
+    /** What follows tests this sentence; it must stand so in the document, so that no test is of a sentence that is not there. */
+    void says(String said) {
+        if (document.isEmpty()) {
+            document = inOneLine(readDocument());
+        }
+        sentence = "";
+        due("the document says '" + said + "'", document.contains(inOneLine(said)) ? 1 : 0, 1);
+        sentence = "'" + said + "' ";
+    }
+
     void due(String call, long got, long want) {
         asked++;
         if (got != want) {
             wrong++;
-            System.out.println(test + ": " + call + " answered " + got + ", due is " + want);
+            System.out.println(test + ": " + sentence + call + " answered " + got + ", due is " + want);
         }
+    }
+
+    private static String readDocument() {
+        try {
+            return Files.readString(Path.of("../shared/DOC.md"), StandardCharsets.UTF_8);
+        } catch (IOException e) {
+            throw new UncheckedIOException(e);
+        }
+    }
+
+    private static String inOneLine(String s) {
+        return s.replaceAll("\\s+", " ");
+    }
+
+    /** The first numbers beyond two bounds, and the last ones that there are. */
+    static int[] beyond(int least, int most) {
+        return new int[] {least - 1, most + 1, Integer.MIN_VALUE, Integer.MAX_VALUE};
     }
 
     /** Ends the machine with 1 if an answer was not as due. */
