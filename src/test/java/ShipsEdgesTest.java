@@ -461,7 +461,7 @@ public final class ShipsEdgesTest {
         x.hours(2);
         due("again", x.at(1, 4), 75);
         due("by the one that wrote it", x.at(0, 4), 100);
-        due("by a third one in its own cell's hour", x.at(2, 4), 75);
+        due("by a third one", x.at(2, 4), 75);
         due("from that hour on", x.knows(2, 6), 1);
         due("it knew it from the first on", x.knows(1, 5), 1);
         due("not before", x.knows(2, 5), 0);
@@ -492,7 +492,7 @@ public final class ShipsEdgesTest {
 
     private static void otherShips() {
         DUE.says("by each other SHIP FAR SIGHT at most");
-        FleetDelegates x = fleet(0, 0, 3, 24, 27, 4, 36);
+        FleetDelegates x = fleet(0, 0, 3, 24, 27, 4);
         x.signal(0, 2);
         x.hours(1);
         int[] saw = {NONE, 2, 2, 2, 2, NONE};
