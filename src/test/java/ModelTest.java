@@ -2,14 +2,18 @@ import java.util.Random;
 
 /** Long runs of calls, the same ones each time, on the class and on the model: promises 1 to 35. */
 public final class ModelTest {
-    private static final int RUNS = 1500;
+    private static final int RUNS = 5000;
     private static final int CALLS = 512;
+    // The most calls of one step, which writes a text, and of a look at all ships.
+    private static final int MOST_OF_STEP = 40;
+    private static final int MOST_OF_ALL = 11 + 6 * 15;
     private static final Due DUE = new Due("ModelTest");
 
     private final Random random;
     private final String run;
     private final FleetDelegates x = new FleetDelegates();
     private final Model m = new Model();
+    private int calls = 0;
 
     private ModelTest(int run) {
         this.random = new Random(run);
@@ -17,6 +21,7 @@ public final class ModelTest {
     }
 
     private void due(String call, long got, long want) {
+        calls++;
         DUE.due(run + call, got, want);
     }
 
@@ -225,32 +230,70 @@ public final class ModelTest {
         }
     }
 
-    private void go(int ships) {
+    private void step(int i) {
+        switch (random.nextInt(12)) {
+            case 0 -> addSome(i);
+            case 1 -> setSome(i);
+            case 2 -> sail(i);
+            case 3 -> boat(i);
+            case 4, 5 -> pass(i);
+            case 6 -> ask(i);
+            case 7 -> write(i);
+            case 8, 9 -> byBooks(i);
+            case 10 -> vote(i);
+            default -> plan(i);
+        }
+    }
+
+    /** Up to the full numbers of fellows, officers, papers and batteries. */
+    private void addMany() {
+        for (int f = 0; f < 17; f++) {
+            int s = ship(), doings = in(0, 63);
+            due("fellow", x.fellow(s, doings), m.fellow(s, doings));
+        }
+        for (int o = 0; o < 13; o++) {
+            int s = random.nextInt(2), skills = in(0, 15);
+            due("officer", x.officer(s, skills), m.officer(s, skills));
+        }
+        for (int p = 0; p < 7; p++) {
+            int s = ship(), offer = in(0, 100), cell = in(0, 63), range = in(0, 3), guns = in(1, 50);
+            due("paper", x.paper(s, offer), m.paper(s, offer));
+            due("battery", x.battery(cell, range, guns), m.battery(cell, range, guns));
+        }
+    }
+
+    private void passMost() {
+        for (int i = 0; i < 49; i++) {
+            due("hours", x.hours(60), m.hours(60));
+        }
+    }
+
+    /** As many steps as an object is used for, and a look at all behind every 64 of them and at the end. */
+    private void go(int ships, boolean isLate, boolean isFull) {
         for (int i = 0; i < ships; i++) {
             addShip(-1);
         }
-        for (int i = 0; i < CALLS; i++) {
-            switch (random.nextInt(12)) {
-                case 0 -> addSome(i);
-                case 1 -> setSome(i);
-                case 2 -> sail(i);
-                case 3 -> boat(i);
-                case 4, 5 -> pass(i);
-                case 6 -> ask(i);
-                case 7 -> write(i);
-                case 8, 9 -> byBooks(i);
-                case 10 -> vote(i);
-                default -> plan(i);
-            }
+        if (isLate) {
+            passMost();
+        }
+        if (isFull) {
+            addMany();
+        }
+        for (int i = 0; calls + MOST_OF_STEP + 2 * MOST_OF_ALL <= CALLS; i++) {
+            step(i);
             if (i % 64 == 63) {
                 all(i);
             }
+        }
+        all(-2);
+        if (calls > CALLS) {
+            DUE.due(run + "calls of one object", calls, CALLS);
         }
     }
 
     public static void main(String[] args) {
         for (int run = 0; run < RUNS; run++) {
-            new ModelTest(run).go(run % 7);
+            new ModelTest(run).go(run % 7, run % 10 == 9, run % 4 == 3);
         }
         DUE.end();
     }
