@@ -189,6 +189,10 @@ public final class ArticlesEdgesTest {
         }
     }
 
+    private static boolean letter(int b) {
+        return b >= 'a' && b <= 'z';
+    }
+
     private static void bytes() {
         DUE.says("TOKEN (a row of letters, a row of digits, any other byte)");
         for (int b = 0; b < 256; b++) {
@@ -197,6 +201,9 @@ public final class ArticlesEdgesTest {
             fault(x, "carry " + (char) b, digit ? NONE : b == ' ' ? 7 : 6);
             fault(x, "carry 5" + (char) b, digit || b == ' ' ? NONE : b == ';' ? 8 : 7);
             fault(x, (char) b + "carry 5", b == ' ' ? NONE : 0);
+            fault(x, "carry" + (char) b, letter(b) ? 0 : digit ? NONE : b == ' ' ? 6 : 5);
+            fault(x, "carry" + (char) b + "5", letter(b) ? 0 : digit || b == ' ' ? NONE : 5);
+            fault(x, "carry 5from" + (char) b + "8", letter(b) ? 7 : digit || b == ' ' ? NONE : 11);
         }
     }
 
@@ -218,6 +225,67 @@ public final class ArticlesEdgesTest {
         fault(x, "owe 1 5 ..", 8);
         fault(x, "owe 7 500 from 9999", 4);
         fault(x, "voice 0 500 from 9999", 8);
+    }
+
+    /** What may stand behind a text that is an article, and what may not. */
+    private static void behind(String text, String... may) {
+        FleetDelegates x = fleet(100);
+        String[] words = {"owe", "voice", "carry", "pardon", "but", "from", "to", "all", "a", "0", "5", "3000", ".", "'", "-"};
+        faultless(x, text);
+        faultless(x, text + "; carry 5");
+        for (String word : words) {
+            boolean is = false;
+            for (String m : may) {
+                is |= m.equals(word);
+            }
+            String longer = text + " " + word;
+            fault(x, longer, is ? longer.length() : text.length() + 1);
+        }
+    }
+
+    private static void forms() {
+        DUE.says("each is one of: owe S N. voice S N. carry N. pardon S. pardon S but K; behind it, if it is told, from H, and then, if told, to H.");
+        String[] forms = {"owe 0 5", "owe all 5", "voice 0 5", "voice all 5", "carry 5", "pardon 0 but 5", "pardon all but 5"};
+        for (String form : forms) {
+            behind(form, "from");
+            behind(form + " from 5", "to");
+            behind(form + " from 5 to 5");
+        }
+        behind("pardon 0", "but", "from");
+        behind("pardon all", "but", "from");
+        behind("pardon 0 from 5", "to");
+        behind("pardon all from 0 to 3000");
+    }
+
+    private static void firstWords() {
+        DUE.says("each is one of: owe S N. voice S N. carry N. pardon S. pardon S but K;");
+        FleetDelegates x = fleet(100);
+        String[] none = {"all", "but", "from", "to", "a", "0", "5", "3000", ";", ".", "owed 0 5", "voices 0 5", "pardo 0", "own 0 5"};
+        for (String word : none) {
+            fault(x, word, 0);
+            fault(x, "carry 5; " + word, 9);
+        }
+        fault(x, "carry all", 6);
+        fault(x, "carry from 5", 6);
+        fault(x, "carry ;", 6);
+        fault(x, "owe 5 5", 4);
+        fault(x, "owe but 5", 4);
+        fault(x, "owe ;", 4);
+        fault(x, "owe 0 all", 6);
+        fault(x, "owe all all", 8);
+        fault(x, "owe 0 ;", 6);
+        fault(x, "voice from 5", 6);
+        fault(x, "voice 0 but 5", 8);
+        fault(x, "pardon but 5", 7);
+        fault(x, "pardon ;", 7);
+        fault(x, "pardon 0 but all", 13);
+        fault(x, "pardon 0 but ;", 13);
+        fault(x, "pardon 0 but from 5", 13);
+        fault(x, "carry 5 from all", 13);
+        fault(x, "carry 5 from ;", 13);
+        fault(x, "carry 5 from to 5", 13);
+        fault(x, "carry 5 from 5 to all", 18);
+        fault(x, "carry 5 from 5 to ;", 18);
     }
 
     private static void endTooSoon() {
@@ -664,6 +732,8 @@ public final class ArticlesEdgesTest {
         signs();
         bytes();
         rows();
+        forms();
+        firstWords();
         endTooSoon();
         books();
         forces();

@@ -1,7 +1,10 @@
 import com.sun.management.ThreadMXBean;
 import java.lang.management.ManagementFactory;
 
-/** Every call with any arguments, on empty and on full objects: none throws, and none makes anything new. */
+/**
+ * Every call with any arguments, on empty and on full objects: none throws, and none makes anything new. No answer is looked
+ * at, so here alone an object gets more than 512 calls: it may answer anything then, but must not throw.
+ */
 public final class RoomTest {
     private static final Due DUE = new Due("RoomTest");
     private static final ThreadMXBean THREADS = (ThreadMXBean) ManagementFactory.getThreadMXBean();

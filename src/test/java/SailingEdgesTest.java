@@ -412,6 +412,42 @@ public final class SailingEdgesTest {
         due("none is away", z.slip(0, 24), NONE);
     }
 
+    private static void promise25() {
+        DUE.says("A BATTERY: how many. UNKNOWN; OUTSIDE; FULL.");
+        FleetDelegates x = ships(56);
+        due("cell -1", x.battery(-1, 0, 1), UNKNOWN);
+        due("cell 64", x.battery(64, 7, 50), UNKNOWN);
+        due("range -1", x.battery(0, -1, 1), OUTSIDE);
+        due("range 8", x.battery(63, 8, 50), OUTSIDE);
+        due("guns 0", x.battery(0, 0, 0), OUTSIDE);
+        due("guns 51", x.battery(63, 7, 51), OUTSIDE);
+        due("none of them fires", x.slip(0, 1), 0);
+        due("one with the least of all", x.battery(0, 0, 1), 1);
+        due("one with the most of all", x.battery(63, 7, 50), 2);
+        due("it fires", x.slip(0, 1), 50);
+        due("a third", x.battery(56, 0, 1), 3);
+        due("a fourth", x.battery(56, 0, 2), 4);
+        due("one more than four", x.battery(56, 0, 4), FULL);
+        due("four fire", x.slip(0, 1), 53);
+    }
+
+    private static void withinHours() {
+        DUE.says("SLIP of a SHIP within n HOURS (1 .. 24): from its CELL, in each HOUR from THE HOUR on, it stays,");
+        FleetDelegates x = ships(56);
+        x.battery(56, 0, 1);
+        for (int n = 1; n <= 24; n++) {
+            due("it stays, within " + n, x.slip(0, n), 1);
+        }
+        DUE.says("LEAST HITS of all ways that are away within n HOURS; none.");
+        FleetDelegates y = ships(48);
+        y.battery(48, 0, 1);
+        y.battery(56, 0, 50);
+        y.battery(57, 0, 10);
+        for (int n = 1; n <= 24; n++) {
+            due("at n " + n, y.slip(0, n), n < 7 ? NONE : n == 7 ? 56 : n == 8 ? 16 : 6);
+        }
+    }
+
     private static void promise26() {
         DUE.says("LEAST HITS of a SLIP within n HOURS; NONE. UNKNOWN; OUTSIDE.");
         FleetDelegates x = ships(56, 48, 0, 0, 0, 63);
@@ -658,6 +694,25 @@ public final class SailingEdgesTest {
         }
     }
 
+    private static void promise32Answers() {
+        DUE.says("Answers of an ASK: 1. UNKNOWN; OUTSIDE.");
+        FleetDelegates x = new FleetDelegates();
+        due("ask -1", x.ask(-1, 20, 20), UNKNOWN);
+        due("ask 5", x.ask(5, 20, 20), UNKNOWN);
+        due("one -21", x.ask(0, -21, 20), OUTSIDE);
+        due("one 21", x.ask(0, 21, 20), OUTSIDE);
+        due("two -21", x.ask(4, 20, -21), OUTSIDE);
+        due("two 21", x.ask(4, 20, 21), OUTSIDE);
+        due("none of them reaches 1", x.reaches(5, 1), 0);
+        due("the first", x.ask(0, 20, 20), 1);
+        due("the last", x.ask(4, 20, 20), 1);
+        due("both reach 40", x.reaches(2, 40), 1);
+        due("the first one begins", x.begin(2, 40), 0);
+        due("told again", x.ask(0, -20, 20), 1);
+        due("the first that does not hinder the last one", x.begin(2, 20), 1);
+        due("40 no more", x.reaches(5, 40), 0);
+    }
+
     private static void reachesWithin() {
         DUE.says("Within n ASKS (1 .. 5, each once at most) the cabin REACHES g");
         FleetDelegates x = asks(20, 20, 20, 20, 20, 20, 20, 20, 20, 20);
@@ -805,6 +860,8 @@ public final class SailingEdgesTest {
         notOutOfCells();
         againstWind();
         costs();
+        promise25();
+        withinHours();
         promise26();
         twelveOfficers();
         needs();
@@ -815,6 +872,7 @@ public final class SailingEdgesTest {
         promise29();
         promises30And31();
         promise32();
+        promise32Answers();
         reachesWithin();
         atOnce();
         promise33();

@@ -656,6 +656,92 @@ public final class ShipsEdgesTest {
         due("not above 100 before 10 less", y.at(1, 4), 90);
     }
 
+    private static void yieldedGoOn() {
+        DUE.says("by these steps, each for all SHIPS by numbers: 1 EATS");
+        FleetDelegates x = fleet(0);
+        x.ship(0, 200, 5, 9000, 50, 29);
+        x.paper(0, 48);
+        x.hours(1);
+        due("it has yielded", x.at(1, 5), 0);
+        x.signal(0, 2);
+        x.hours(1);
+        due("one that has yielded eats", x.at(1, 1), 1);
+        due("it sees", x.saw(1, 0), 2);
+        due("and its will is more", x.at(1, 4), 33);
+        x.boat(0, 1, 1, 0, 0);
+        x.hours(1);
+        due("it hungers, and a boat comes", x.at(1, 1), 1);
+        due("it reads", x.knows(1, 2), 1);
+        due("and its will is less by both", x.at(1, 4), 33 - 3 - 15);
+        due("its will above LINE, it was in hour 0", x.at(1, 5), 0);
+        due("a boat of its own", x.boat(1, 0, 1, 900, 0), 3);
+        due("a paper of its own", x.paper(1, 7), 1);
+        due("none of its own signals", x.signal(1, 0), NOT);
+    }
+
+    /** A ship that eats, reads and sees a 2 in one hour: what it has then as will, with none of it cut but at the bounds. */
+    private static int behindAllSteps(int beef, int will, boolean paper, boolean signal) {
+        FleetDelegates x = alone(1, 9000, 9000, 0, 100);
+        x.ship(0, 1, beef, 9000, 0, will);
+        x.paper(0, 100);
+        x.boat(0, 1, 100, 0, paper ? 0 : NONE);
+        if (signal) {
+            x.signal(0, 2);
+        }
+        x.hours(1);
+        due("beef of the boat", x.at(1, 1), Math.max(0, beef - 1) + 100);
+        return x.at(1, 4);
+    }
+
+    private static void steps() {
+        DUE.says("by these steps, each for all SHIPS by numbers: 1 EATS");
+        due("a boat's beef comes behind the eating", behindAllSteps(0, 50, false, false), 47);
+        due("beef for that hour", behindAllSteps(1, 50, false, false), 50);
+        due("hunger before a 2, will 100", behindAllSteps(0, 100, false, true), 100);
+        due("hunger before a 2, will 99", behindAllSteps(0, 99, false, true), 100);
+        due("hunger before a 2, will 2", behindAllSteps(0, 2, false, true), 4);
+        due("a paper before a 2, will 100", behindAllSteps(1, 100, true, true), 64);
+        due("a paper before a 2, will 98", behindAllSteps(1, 98, true, true), 62);
+        due("a paper before a 2, will 39", behindAllSteps(1, 39, true, true), 4);
+        due("hunger, a paper and a 2, will 41", behindAllSteps(0, 41, true, true), 4);
+        due("hunger, a paper and a 2, will 44", behindAllSteps(0, 44, true, true), 5);
+        FleetDelegates x = new FleetDelegates();
+        x.ship(0, 1, 9000, 9000, 0, 100);
+        x.ship(0, 1, 9000, 9000, 0, 26);
+        x.ship(0, 1, 9000, 9000, 0, 25);
+        x.ship(0, 1, 0, 9000, 0, 30);
+        x.ship(0, 1, 0, 9000, 0, 29);
+        x.signal(0, 2);
+        x.hours(1);
+        due("a 2 before yielding, will 26", x.at(1, 5), NONE);
+        due("a 2 before yielding, will 25", x.at(2, 5), 0);
+        due("hunger and a 2 before yielding, will 30", x.at(3, 5), NONE);
+        due("hunger and a 2 before yielding, will 29", x.at(4, 5), NONE);
+    }
+
+    /** The will of the second ship behind an hour with a 3 and a 2, the 3 of the first ship or of the last one. */
+    private static int byNumbers(int will, boolean threeFirst) {
+        FleetDelegates x = new FleetDelegates();
+        x.set(3, 1);
+        x.ship(0, 1, 9000, 9000, 0, threeFirst ? 29 : 100);
+        x.ship(0, 1, 9000, 9000, 0, will);
+        x.ship(0, 1, 9000, 9000, 0, threeFirst ? 100 : 29);
+        x.hours(1);
+        x.signal(threeFirst ? 2 : 0, 2);
+        x.hours(1);
+        return x.at(1, 4);
+    }
+
+    private static void shipsByNumbers() {
+        DUE.says("by these steps, each for all SHIPS by numbers: 1 EATS");
+        due("3 of ship 0 before 2 of ship 2, will 98", byNumbers(98, true), 92);
+        due("2 of ship 0 before 3 of ship 2, will 98", byNumbers(98, false), 90);
+        due("3 of ship 0 before 2 of ship 2, will 100", byNumbers(100, true), 94);
+        due("2 of ship 0 before 3 of ship 2, will 100", byNumbers(100, false), 90);
+        due("3 of ship 0 before 2 of ship 2, will 50", byNumbers(50, true), 44);
+        due("2 of ship 0 before 3 of ship 2, will 50", byNumbers(50, false), 44);
+    }
+
     private static void promise1() {
         DUE.says("`FleetDelegates()`: HOUR 0, no SHIPS, empty BOOKS.");
         FleetDelegates x = new FleetDelegates();
@@ -672,6 +758,30 @@ public final class ShipsEdgesTest {
             due("word by book " + book, x.word(book, 0, 0), NONE);
         }
         due("carry by the fleet's book", x.vote(0, 1), 1);
+    }
+
+    private static void promise2() {
+        DUE.says("A SHIP: its number. UNKNOWN: CELL; OUTSIDE; FULL.");
+        FleetDelegates x = new FleetDelegates();
+        int[] least = {0, 1, 0, 0, 0, 0};
+        int[] most = {63, 900, 9000, 9000, 100, 100};
+        due("with the least of all", ship(x, least), 0);
+        due("with the most of all", ship(x, most), 1);
+        for (int i = 0; i < 6; i++) {
+            int[] less = least.clone();
+            int[] more = most.clone();
+            less[i]--;
+            more[i]++;
+            due("one less than the least, " + i, ship(x, less), i == 0 ? UNKNOWN : OUTSIDE);
+            due("one more than the most, " + i, ship(x, more), i == 0 ? UNKNOWN : OUTSIDE);
+        }
+        due("none of them is there", x.count(0), 2);
+        for (int s = 2; s < 6; s++) {
+            due("its number", ship(x, most), s);
+        }
+        due("one more than six", ship(x, most), FULL);
+        due("one more than six with the least of all", ship(x, least), FULL);
+        due("there are six", x.count(0), 6);
     }
 
     private static void promise3() {
@@ -693,7 +803,7 @@ public final class ShipsEdgesTest {
     }
 
     private static void promise4() {
-        DUE.says("A PAPER, KNOWN by a SHIP from THE HOUR on (it is not READ): its number.");
+        DUE.says("A PAPER, KNOWN by a SHIP from THE HOUR on (it is not READ): its number. UNKNOWN: SHIP; OUTSIDE; FULL.");
         FleetDelegates x = fleet(0, 0);
         for (int ship : Due.beyond(0, 1)) {
             due("by ship " + ship, x.paper(ship, 0), UNKNOWN);
@@ -709,6 +819,13 @@ public final class ShipsEdgesTest {
         due("in hour 3000", y.paper(0, 0), 0);
         due("as of hour 2999", y.knows(0, 2999), 0);
         due("as of hour 3000", y.knows(0, 3000), 1);
+        for (int p = 1; p < 6; p++) {
+            due("one of six", y.paper(0, p % 2 * 100), p);
+            due("offer -1", y.paper(0, -1), OUTSIDE);
+            due("offer 101", y.paper(0, 101), OUTSIDE);
+        }
+        due("one more than six", y.paper(0, 100), FULL);
+        due("it knows six", y.knows(0, 3000), 63);
     }
 
     private static void promise5() {
@@ -720,6 +837,30 @@ public final class ShipsEdgesTest {
         }
         due("no boat is on the way", x.count(3), 0);
         due("none of them took any", x.at(0, 1) + x.at(0, 2), 18000);
+    }
+
+    private static void promise5Refused() {
+        DUE.says("OUTSIDE: to itself, beef, water; NOT: there is not so much, or the SHIP does not KNOW the PAPER; FULL.");
+        FleetDelegates x = new FleetDelegates();
+        x.ship(0, 1, 11, 12, 0, 100);
+        x.ship(9, 1, 9000, 9000, 0, 100);
+        x.paper(0, 0);
+        x.paper(1, 0);
+        due("to itself", x.boat(0, 0, 1, 1, 0), OUTSIDE);
+        due("beef -1", x.boat(1, 0, -1, 0, NONE), OUTSIDE);
+        due("beef 901", x.boat(1, 0, 901, 0, NONE), OUTSIDE);
+        due("water -1", x.boat(1, 0, 0, -1, NONE), OUTSIDE);
+        due("water 901", x.boat(1, 0, 0, 901, NONE), OUTSIDE);
+        due("beef 12 of 11", x.boat(0, 1, 12, 12, 0), NOT);
+        due("water 13 of 12", x.boat(0, 1, 11, 13, 0), NOT);
+        due("a paper of the other one", x.boat(0, 1, 11, 12, 1), NOT);
+        due("900 of each and its own paper", x.boat(1, 0, 900, 900, 1), 1);
+        due("11 of 11, 12 of 12, and its own paper", x.boat(0, 1, 11, 12, 0), 1);
+        for (int b = 2; b < 12; b++) {
+            due("one of twelve", x.boat(1, 0, 0, 0, NONE), 1);
+        }
+        due("one more than twelve", x.boat(1, 0, 0, 0, NONE), FULL);
+        due("twelve", x.count(3), 12);
     }
 
     private static void promise6() {
@@ -914,10 +1055,15 @@ public final class ShipsEdgesTest {
         twos();
         line();
         willBounds();
+        yieldedGoOn();
+        steps();
+        shipsByNumbers();
         promise1();
+        promise2();
         promise3();
         promise4();
         promise5();
+        promise5Refused();
         promise6();
         promise7();
         promise8();

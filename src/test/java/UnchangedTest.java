@@ -25,24 +25,28 @@ public final class UnchangedTest {
     private UnchangedTest(String name, State state) {
         this.name = name;
         this.state = state;
-        this.due = told(state.made());
+        this.due = told(state.made(), state.made());
     }
 
     private void refused(int answer, String call, Call refused) {
         FleetDelegates x = state.made();
+        FleetDelegates y = state.made();
+        refused.on(y);
         DUE.due(name + ": " + call, refused.on(x), answer);
-        same(call, x);
+        same(call, x, y);
     }
 
     private void asks(String call, Call asked) {
         FleetDelegates x = state.made();
+        FleetDelegates y = state.made();
+        asked.on(y);
         int answer = asked.on(x);
         DUE.due(name + ": " + call + " asks, and is not refused", answer >= NONE ? 0 : answer, 0);
-        same(call, x);
+        same(call, x, y);
     }
 
-    private void same(String call, FleetDelegates x) {
-        List<String> told = told(x);
+    private void same(String call, FleetDelegates x, FleetDelegates y) {
+        List<String> told = told(x, y);
         String changed = "";
         for (int i = 0; i < told.size() && changed.isEmpty(); i++) {
             changed = told.get(i).equals(due.get(i)) ? "" : told.get(i) + " is due as " + due.get(i);
@@ -52,12 +56,13 @@ public final class UnchangedTest {
 
     // ---- all that an object tells
 
-    private static List<String> told(FleetDelegates x) {
+    /** Two objects alike: what is asked of the first would hide from the second what asking itself had changed. */
+    private static List<String> told(FleetDelegates x, FleetDelegates y) {
         List<String> told = new ArrayList<>();
         tellShips(told, x);
         tellBooks(told, x);
         tellRest(told, x);
-        tellHidden(told, x);
+        tellHidden(told, y);
         return told;
     }
 
@@ -79,7 +84,6 @@ public final class UnchangedTest {
     }
 
     private static void tellBooks(List<String> told, FleetDelegates x) {
-        told.add("fault() " + x.fault());
         for (int book = 0; book < 2; book++) {
             for (int s = 0; s < 6; s++) {
                 told.add("owed(" + book + ", " + s + ") " + x.owed(book, s, 5));
@@ -92,6 +96,7 @@ public final class UnchangedTest {
             }
         }
         told.add("unlike(0) " + x.unlike(0, 0));
+        told.add("fault() " + x.fault());
     }
 
     private static void tellRest(List<String> told, FleetDelegates x) {
@@ -114,7 +119,7 @@ public final class UnchangedTest {
         }
     }
 
-    /** These change the object, so they come last, on both objects alike. */
+    /** These change the object. */
     private static void tellHidden(List<String> told, FleetDelegates x) {
         for (int what = 0; what < 4; what++) {
             int was = x.set(what, 1);
@@ -133,7 +138,9 @@ public final class UnchangedTest {
             for (int what = 1; what < 6; what++) {
                 told.add("8 hours later at(" + s + ", " + what + ") " + x.at(s, what));
             }
-            told.add("8 hours later saw(" + s + ", 0) " + x.saw(s, 0));
+            for (int o = 0; o < 6; o++) {
+                told.add("8 hours later saw(" + s + ", " + o + ") " + x.saw(s, o));
+            }
             told.add("8 hours later knows(" + s + ") " + x.knows(s, 3000));
             told.add("signal(" + s + ") " + x.signal(s, 0));
         }
@@ -169,8 +176,8 @@ public final class UnchangedTest {
         x.hours(1);
         x.boat(1, 0, 2, 3, 1);
         x.boat(0, 2, 100, 90, -1);
-        x.signal(0, 2);
-        x.signal(1, 1);
+        x.signal(0, 1);
+        x.signal(1, 2);
         x.fellow(0, 4);
         x.fellow(1, 63);
         x.battery(57, 1, 9);
@@ -196,14 +203,14 @@ public final class UnchangedTest {
 
     private static FleetDelegates full() {
         FleetDelegates x = new FleetDelegates();
-        x.set(3, 0xffffff);
         for (int s = 0; s < 6; s++) {
             x.ship(9 * s, 100 * s + 1, 900, 800, 10 * s, s == 5 ? 29 : 100);
+            x.signal(s, s % 2);
         }
         Due.articles(x, 0, "pardon all but 3;owe all 9;voice 0 2");
-        Due.articles(x, 1, "pardon 5 but 3;owe 5 9");
+        Due.articles(x, 1, "pardon 3 but 5;pardon 5 but 3;owe 5 9");
         x.hours(1);
-        x.set(3, 0);
+        x.signal(0, 2);
         for (int p = 0; p < 6; p++) {
             x.paper(p, 10 * p);
         }
@@ -219,7 +226,7 @@ public final class UnchangedTest {
         for (int b = 0; b < 4; b++) {
             x.battery(60 - b, b, b + 1);
         }
-        x.list(1365, true);
+        x.list(3125, true);
         x.ask(3, 5, 5);
         for (int i = 0; i < 24; i++) {
             x.write(BLANKS, 8);
@@ -432,7 +439,7 @@ public final class UnchangedTest {
 
     private void refusedFull() {
         refused(FULL, "ship", x -> x.ship(0, 1, 1, 1, 1, 1));
-        refused(FULL, "paper", x -> x.paper(0, 50));
+        refused(FULL, "paper", x -> x.paper(0, 0));
         refused(FULL, "boat", x -> x.boat(0, 1, 1, 1, -1));
         refused(FULL, "boat with a paper", x -> x.boat(0, 1, 1, 1, 0));
         refused(FULL, "boat with nothing", x -> x.boat(0, 1, 0, 0, -1));
